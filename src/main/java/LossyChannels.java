@@ -649,16 +649,19 @@ public final class LossyChannels {
         }
 
         private int order(Config config, int index) {
-            if (!has(index)) {
-                return 0;
+            if (index < 0 || index >= size) {
+                return -1;
             }
             if (config.state != states[index]) {
-                return Integer.compare(config.state, states[index]);
+                return config.state < states[index] ? -1 : 1;
             }
             if (config.first != firsts[index]) {
-                return Long.compare(config.first, firsts[index]);
+                return config.first < firsts[index] ? -1 : 1;
             }
-            return Long.compare(config.second, seconds[index]);
+            if (config.second != seconds[index]) {
+                return config.second < seconds[index] ? -1 : 1;
+            }
+            return 0;
         }
 
         private void store(int index, Config config) {
@@ -670,7 +673,7 @@ public final class LossyChannels {
         }
 
         private void move(int from, int to) {
-            if (has(from) && has(to)) {
+            if (from >= 0 && from < size && to >= 0 && to < size) {
                 states[to] = states[from];
                 firsts[to] = firsts[from];
                 seconds[to] = seconds[from];
@@ -1221,7 +1224,8 @@ public final class LossyChannels {
             work.first = parseWord();
             expect(',');
             work.second = parseWord();
-            parseEnd();
+            expect(')');
+            expect(';');
             if (!failed) {
                 goals.add(work);
             }
@@ -1237,15 +1241,11 @@ public final class LossyChannels {
                 expect(',');
                 letter = parseSymbol('a', LETTERS);
             }
-            parseEnd();
+            expect(')');
+            expect(';');
             if (!failed) {
                 transitions.add(oldState, newState, action, channel, letter);
             }
-        }
-
-        private void parseEnd() {
-            expect(')');
-            expect(';');
         }
 
         /** The position stays at the first letter of a name that is unknown. */

@@ -314,7 +314,10 @@ public final class PromisesTest {
         Check.due("13 received", Look.config(x), "2/bc/");
         x.undo();
         x.lose(0, 0);
+        Check.refused(x, "13 no letter", STATE, () -> x.fire(2));
+        present(x, 1, "ba", "a");
         Check.refused(x, "13 no losses", STATE, () -> x.fire(2));
+        present(x, 1, "bc", "");
         x.setState(0);
         Check.due("13 move", x.fire(0), 4);
         Check.due("13 moved", Look.config(x), "4/bc/");
@@ -397,6 +400,15 @@ public final class PromisesTest {
         }
         Check.due("15 behind the first loss", Look.config(x), "0/aaaaaaaaa/aaaaaaaaaa");
         Check.refused(x, "15 the first loss is forgotten", STATE, () -> x.undo());
+        present(x, 0, "aaaaaaaaa", "aaaaaaaaaa");
+        x.fire(0);
+        for (int i = 0; i < 20; i++) {
+            x.lose(i % 2, 0);
+        }
+        for (int i = 0; i < 20; i++) {
+            Check.due("15 the firing is forgotten", x.undo(), 1);
+        }
+        Check.refused(x, "15 nothing before the losses", STATE, () -> x.undo());
     }
 
     private static void promise16() {
@@ -487,6 +499,12 @@ public final class PromisesTest {
         Check.due("19 one empty", x.common(), 0);
         present(x, 0, "aaaa", "bbcb");
         Check.due("19 nothing", x.common(), 0);
+        present(x, 0, "b", "a");
+        Check.due("19 one letter each", x.common(), 0);
+        present(x, 0, "bbc", "c");
+        Check.due("19 at the end", x.common(), 1);
+        present(x, 0, "c", "bbc");
+        Check.due("19 at the other end", x.common(), 1);
         present(x, 0, "abcbabca", "bacabbca");
         Check.due("19 some", x.common(), 6);
         present(x, 0, "abcabcabca", "abcabcabca");
@@ -867,6 +885,8 @@ public final class PromisesTest {
     private static final String[] FAULTS = {
         "", "0", ";", "0", " move(0,1);", "0", "Move(0,1);", "0", "1", "0", "(", "0", "\u00e9", "0", "\uffff", "0",
         "s", "0", "sen", "0", "sendd", "0", "sendx(0", "0", "mov(0,1);", "0", "goalmove(0,1);", "0", "seNd(0,1);", "0",
+        "movez(0,1);", "0", "zend(0,1,0,a);", "0", "love(0,1);", "0", "sfnd(0,1,0,a);", "0", "rexv(0,1,0,a);", "0",
+        "goad(0,,);", "0", "move)", "4", "move(0-", "6", "move(0,1*", "8", "move(0,1)<", "9", "move`", "4", "move{", "4",
         "send", "4", "send ", "4", "move1", "4", "goalX", "4", "move[", "4", "recv(", "5", "recv(6", "5", "recv(a", "5",
         "recv(-", "5", "recv(5", "6", "recv(5.", "6", "recv(5,", "7", "recv(5,6", "7", "recv(5,5)", "8", "recv(5,5,2", "9",
         "recv(5,5,1", "10", "recv(5,5,1,", "11", "recv(5,5,1,d", "11", "recv(5,5,1,0", "11", "recv(5,5,1,c", "12",

@@ -45,6 +45,7 @@ public final class PromisesTest {
         promise35();
         promise36();
         promise37();
+        promise37Ends();
         promise38();
         promise39();
         Check.finish("PromisesTest");
@@ -918,6 +919,27 @@ public final class PromisesTest {
             Check.due("37 the next text", x.read(), 1);
             Check.due("37 has no fault", x.faultPosition(), -1);
         }
+    }
+
+    /** What an earlier text has left in the buffer is no part of a later one, and nothing is behind a full one. */
+    private static void promise37Ends() {
+        LossyChannels x = new LossyChannels();
+        append(x, "sendd");
+        Check.due("37 a longer text", () -> x.read(), "throws " + ARGUMENT);
+        append(x, "send");
+        Check.due("37 a shorter text", () -> x.read(), "throws " + ARGUMENT);
+        Check.due("37 which ends too early", x.faultPosition(), 4);
+        append(x, "move(0,1);");
+        Check.due("37 a whole text", x.read(), 1);
+        append(x, "move(0,1)");
+        Check.due("37 a part of it", () -> x.read(), "throws " + ARGUMENT);
+        Check.due("37 which also ends too early", x.faultPosition(), 9);
+        append(x, "a".repeat(80));
+        Check.due("37 eighty letters", () -> x.read(), "throws " + ARGUMENT);
+        Check.due("37 which are no name", x.faultPosition(), 0);
+        append(x, "goal(0,aaaaaaaaaa,bbbbbbbbbb);".repeat(2) + "goal(0,,ab);" + "move(0,0");
+        Check.due("37 eighty characters", () -> x.read(), "throws " + ARGUMENT);
+        Check.due("37 which end too early", x.faultPosition(), 80);
     }
 
     private static void promise38() {

@@ -3,7 +3,7 @@ import java.util.TreeMap;
 
 /** Many machines with goals: all that follows from their bases, compared with the model. */
 public final class AnalysisTest {
-    private static final int MACHINES = 12000;
+    private static final int MACHINES = 15000;
 
     private static long seed;
     private static final Map<String, Integer> SEEN = new TreeMap<>();
@@ -13,6 +13,7 @@ public final class AnalysisTest {
             seed = i * 104729L + 17;
             compare(i);
         }
+        Check.about("");
         String[] wanted = {"analysis 0", "analysis 1", "last 0", "last 12", "size 20", "size 25", "distance -1", "distance 0",
             "distance 9", "distance 11", "lost 1", "lost 5", "length 12"};
         for (String sight : wanted) {
@@ -31,94 +32,123 @@ public final class AnalysisTest {
     }
 
     private static void compare(int number) {
-        LossyChannels x = new LossyChannels();
-        Model m = new Model();
         int states = 1 + below(6);
         int letters = 1 + below(3);
+        String commands = commands(states, letters);
+        Model m = model(commands);
+        Check.about("machine " + number + ", " + commands + ": ");
+        Check.due("analyze", Make.machine(commands).analyze(), m.analyze());
+        see("analysis", m.analyze());
+        if (m.analyze() == 1) {
+            bases(commands, m);
+            lastBasis(commands, m);
+            Subject x = Make.machine(commands);
+            for (int i = 0; i < 6; i++) {
+                present(x, m, states, letters);
+                covering(x, m);
+            }
+        }
+    }
+
+    private static String commands(int states, int letters) {
+        StringBuilder commands = new StringBuilder();
         int receiving = below(4);
         int count = below(11);
         for (int i = 0; i < count; i++) {
             int p = below(states);
             int q = below(3) == 0 ? below(states) : (p + 1) % states;
             int action = below(5) < receiving ? 2 : below(3);
-            int channel = below(2);
-            int letter = below(letters);
-            x.addTransition(p, q, action, channel, letter);
-            m.addTransition(p, q, action, channel, letter);
+            commands.append(action == 0 ? "move(" : action == 1 ? "send(" : "recv(").append(p).append(',').append(q);
+            if (action != 0) {
+                commands.append(',').append(below(2)).append(',').append(word(1, letters));
+            }
+            commands.append(") ");
         }
         int goals = 1 + below(3);
         for (int i = 0; i < goals; i++) {
-            present(x, m, states, letters, below(3) == 0 ? 0 : below(6));
-            x.addGoal();
-            m.addGoal();
+            int length = below(3) == 0 ? 0 : below(15) == 0 ? 10 : below(6);
+            int first = below(length + 1);
+            commands.append("goal(").append(below(states)).append(',').append(word(first, letters)).append(',')
+                    .append(word(length - first, letters)).append(") ");
         }
-        Check.due("machine " + number + ": analyze", x.analyze(), m.analyze());
-        see("analysis", m.analyze());
-        if (m.analyze() == 1) {
-            bases(number, x, m);
-            for (int i = 0; i < 6; i++) {
-                present(x, m, states, letters, below(18));
-                covering(number, x, m);
-            }
-        }
+        return commands.toString().strip();
     }
 
-    private static void present(LossyChannels x, Model m, int states, int letters, int length) {
+    private static String word(int length, int letters) {
+        StringBuilder word = new StringBuilder();
+        for (int i = 0; i < length; i++) {
+            word.append((char) ('a' + below(letters)));
+        }
+        return word.toString();
+    }
+
+    private static Model model(String commands) {
+        Model m = new Model();
+        for (String command : commands.split(" ")) {
+            for (char c : (command + ";").toCharArray()) {
+                m.append(c);
+            }
+            m.read();
+        }
+        return m;
+    }
+
+    private static void present(Subject x, Model m, int states, int letters) {
         int state = below(states);
-        x.setState(state);
+        String[] words = {word(below(10), letters), word(below(10), letters)};
+        Make.present(x, state, words[0], words[1]);
         m.setState(state);
         for (int channel = 0; channel < 2; channel++) {
-            x.clear(channel);
             m.clear(channel);
-        }
-        for (int i = 0; i < length; i++) {
-            int channel = below(2);
-            int letter = below(letters);
-            if (m.length(channel) < 10) {
-                x.put(channel, letter);
-                m.put(channel, letter);
+            for (char c : words[channel].toCharArray()) {
+                m.put(channel, c - 'a');
             }
         }
     }
 
-    private static void bases(int number, LossyChannels x, Model m) {
+    private static void bases(String commands, Model m) {
         int last = m.lastRound();
-        Check.due("machine " + number + ": lastRound", x.lastRound(), last);
         see("last", last);
         for (int round = 0; round <= last; round++) {
-            int k = round;
-            Check.due("machine " + number + ": basisSize", x.basisSize(k), m.basisSize(k));
-            see("size", m.basisSize(k));
-            for (int index = 0; index < m.basisSize(k); index++) {
+            Subject x = Make.machine(commands);
+            Check.due("lastRound", x.lastRound(), last);
+            Check.due("basisSize of round " + round, x.basisSize(round), m.basisSize(round));
+            see("size", m.basisSize(round));
+            for (int index = 0; index < m.basisSize(round); index++) {
                 for (int what = 0; what < 3; what++) {
-                    Check.due("machine " + number + ": basis", x.basis(k, index, what), m.basis(k, index, what));
+                    Check.due("basis of round " + round, x.basis(round, index, what), m.basis(round, index, what));
                 }
             }
         }
+    }
+
+    private static void lastBasis(String commands, Model m) {
+        int last = m.lastRound();
         for (int index = 0; index < m.basisSize(last); index++) {
+            Subject x = Make.machine(commands);
             for (int channel = 0; channel < 2; channel++) {
                 int length = m.basis(last, index, 1 + channel);
                 see("length", length);
                 for (int place = 0; place < length; place++) {
-                    Check.due("machine " + number + ": basisLetter", x.basisLetter(index, channel, place),
-                            m.basisLetter(index, channel, place));
+                    Check.due("basisLetter", x.basisLetter(index, channel, place), m.basisLetter(index, channel, place));
                 }
             }
         }
-        Check.due("machine " + number + ": coveringStates", x.coveringStates(), m.coveringStates());
+        Subject x = Make.machine(commands);
+        Check.due("coveringStates", x.coveringStates(), m.coveringStates());
         for (int state = 0; state < 6; state++) {
-            Check.due("machine " + number + ": least", x.least(state), m.least(state));
+            Check.due("least", x.least(state), m.least(state));
         }
     }
 
-    private static void covering(int number, LossyChannels x, Model m) {
+    private static void covering(Subject x, Model m) {
         int distance = m.distance();
-        Check.due("machine " + number + ": distance", x.distance(), distance);
+        Check.due("distance", x.distance(), distance);
         see("distance", distance);
         for (int i = 0; i <= distance; i++) {
             int index = i;
-            Check.due("machine " + number + ": covering", () -> x.covering(index), Check.answer(() -> m.covering(index)));
-            Check.due("machine " + number + ": lost", () -> x.lost(index), Check.answer(() -> m.lost(index)));
+            Check.due("covering", () -> x.covering(index), Check.answer(() -> m.covering(index)));
+            Check.due("lost", () -> x.lost(index), Check.answer(() -> m.lost(index)));
             see("lost", Check.answer(() -> m.lost(index)));
         }
     }

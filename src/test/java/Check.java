@@ -6,17 +6,29 @@ final class Check {
         Object run();
     }
 
+    static final String ARGUMENT = "throws IllegalArgumentException";
+    static final String STATE = "throws IllegalStateException";
+    static final String INDEX = "throws IndexOutOfBoundsException";
+    static final String ELEMENT = "throws NoSuchElementException";
+    static final String UNSUPPORTED = "throws UnsupportedOperationException";
+
+    private static String about = "";
     private static int wrong = 0;
     private static int checked = 0;
 
     private Check() {
     }
 
+    /** What the following answers are about. */
+    static void about(String what) {
+        about = what;
+    }
+
     static void due(String what, Object got, Object want) {
         checked++;
         if (!Objects.equals(got, want)) {
             wrong++;
-            System.out.println(what + " answered " + got + ", due is " + want);
+            System.out.println(about + what + " answered " + got + ", due is " + want);
         }
     }
 
@@ -33,11 +45,8 @@ final class Check {
         }
     }
 
-    /** A call that throws leaves everything that can be seen as it was. */
-    static void refused(LossyChannels x, String what, String exception, Call call) {
-        String before = Look.at(x);
-        due(what, call, "throws " + exception);
-        due(what + " and the state behind it", Look.at(x), before);
+    static int checked() {
+        return checked;
     }
 
     static void finish(String test) {

@@ -29,7 +29,7 @@ public final class LiteralRunsTest {
     }
 
     private static void compare(int number) {
-        LossyChannels x = new LossyChannels();
+        Subject x = new Subject();
         Model m = new Model();
         int states = 2 + below(3);
         int count = 2 + below(4);
@@ -49,7 +49,7 @@ public final class LiteralRunsTest {
         compareRuns("machine " + number, x, m);
     }
 
-    private static void present(LossyChannels x, Model m, int state, int length) {
+    private static void present(Subject x, Model m, int state, int length) {
         x.setState(state);
         m.setState(state);
         for (int channel = 0; channel < 2; channel++) {
@@ -64,7 +64,7 @@ public final class LiteralRunsTest {
         }
     }
 
-    private static void compareRuns(String name, LossyChannels x, Model m) {
+    private static void compareRuns(String name, Subject x, Model m) {
         Set<Model.Config> reached = withLosses(Set.of(m.present));
         int distance = covers(reached, m) ? 0 : -1;
         for (int n = 0; n <= FIRINGS; n++) {
@@ -93,7 +93,7 @@ public final class LiteralRunsTest {
         }
     }
 
-    private static void coveringRun(String name, LossyChannels x, Model m, int distance) {
+    private static void coveringRun(String name, Subject x, Model m, int distance) {
         if (distance < 1) {
             return;
         }

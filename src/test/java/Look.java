@@ -1,25 +1,29 @@
-/** Everything that calls without effect tell of an object. */
+/** What calls without effect tell of an object. */
 final class Look {
     private Look() {
     }
 
-    static String at(LossyChannels x) {
+    static String machine(Subject x) {
         StringBuilder seen = new StringBuilder();
         for (int t = 0; t < x.transitionCount(); t++) {
-            for (int what = 0; what < 5; what++) {
-                seen.append(x.transition(t, what)).append(' ');
-            }
+            seen.append(t == 0 ? "" : ", ").append(transition(x, t));
         }
-        seen.append("| ").append(config(x)).append(" | ").append(x.increase());
-        seen.append(" | ").append(x.faultPosition()).append(" | ").append(bases(x));
         return seen.toString();
     }
 
-    static String config(LossyChannels x) {
+    static String transition(Subject x, int t) {
+        StringBuilder seen = new StringBuilder();
+        for (int what = 0; what < 5; what++) {
+            seen.append(what == 0 ? "" : " ").append(x.transition(t, what));
+        }
+        return seen.toString();
+    }
+
+    static String config(Subject x) {
         return x.state() + "/" + word(x, 0) + "/" + word(x, 1);
     }
 
-    static String word(LossyChannels x, int channel) {
+    static String word(Subject x, int channel) {
         StringBuilder word = new StringBuilder();
         for (int i = 0; i < x.length(channel); i++) {
             word.append((char) ('a' + x.letter(channel, i)));
@@ -27,35 +31,50 @@ final class Look {
         return word.toString();
     }
 
-    static String bases(LossyChannels x) {
+    /** The states and lengths of the basis of a round. */
+    static String basis(Subject x, int round) {
+        StringBuilder seen = new StringBuilder();
+        for (int i = 0; i < x.basisSize(round); i++) {
+            seen.append(i == 0 ? "" : ", ").append(x.basis(round, i, 0)).append(' ').append(x.basis(round, i, 1))
+                    .append(' ').append(x.basis(round, i, 2));
+        }
+        return seen.toString();
+    }
+
+    static String bases(Subject x) {
         Object analysis = Check.answer(() -> x.analyze());
         if (!analysis.equals(1)) {
             return String.valueOf(analysis);
         }
         StringBuilder seen = new StringBuilder();
         for (int round = 0; round <= x.lastRound(); round++) {
-            seen.append(round).append(':');
-            for (int i = 0; i < x.basisSize(round); i++) {
-                for (int what = 0; what < 3; what++) {
-                    seen.append(' ').append(x.basis(round, i, what));
-                }
-                seen.append(';');
-            }
+            seen.append(round).append(": ").append(basis(x, round)).append("; ");
         }
         return seen.append(lastBasis(x)).toString();
     }
 
-    static String lastBasis(LossyChannels x) {
+    /** The basis of the last round with its words. */
+    static String lastBasis(Subject x) {
         StringBuilder seen = new StringBuilder();
         int last = x.lastRound();
         for (int i = 0; i < x.basisSize(last); i++) {
-            seen.append(' ').append(x.basis(last, i, 0));
+            seen.append(i == 0 ? "" : " ").append(x.basis(last, i, 0));
             for (int channel = 0; channel < 2; channel++) {
                 seen.append('/');
                 for (int place = 0; place < x.basis(last, i, 1 + channel); place++) {
                     seen.append((char) ('a' + x.basisLetter(i, channel, place)));
                 }
             }
+        }
+        return seen.toString();
+    }
+
+    /** The covering run: each transition with the letters lost before it. */
+    static String covering(Subject x) {
+        StringBuilder seen = new StringBuilder();
+        int distance = x.distance();
+        for (int i = 0; i < distance; i++) {
+            seen.append(i == 0 ? "" : " ").append(x.covering(i)).append('-').append(x.lost(i));
         }
         return seen.toString();
     }

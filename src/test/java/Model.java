@@ -483,7 +483,7 @@ final class Model {
     Object append(char c) {
         demand(buffer.length() < 80, new IllegalStateException());
         buffer.append(c);
-        return null;
+        return "append";
     }
 
     private static boolean canContinue(String beginning) {
@@ -543,7 +543,7 @@ final class Model {
         savedTransitions = new ArrayList<>(transitions);
         savedGoals = new ArrayList<>(goals);
         savedPresent = present;
-        return null;
+        return "save";
     }
 
     Object restore() {
@@ -553,6 +553,6 @@ final class Model {
         present = savedPresent;
         steps.clear();
         bases = null;
-        return null;
+        return "restore";
     }
 }

@@ -4,7 +4,6 @@ import java.util.TreeMap;
 /** Long mixed runs of calls, each compared with the model, the same ones at every time. */
 public final class ModelTest {
     private static final int RUNS = 1500;
-    private static final int CALLS = 512;
 
     private static long seed;
     private static final Map<String, Integer> ANSWERS = new TreeMap<>();
@@ -43,27 +42,26 @@ public final class ModelTest {
     }
 
     private static void compare(int run) {
-        LossyChannels x = new LossyChannels();
+        Subject x = new Subject();
         Model m = new Model();
         int states = 1 + below(6);
         int letters = 1 + below(3);
-        int used = 0;
         if (below(4) > 0) {
-            used = machine(run, x, m, states, letters) + goals(run, x, m, states, letters);
+            machine(run, x, m, states, letters);
+            goals(run, x, m, states, letters);
         }
         // Some runs change their machine and goals seldom, so that there is something to analyze.
         boolean steady = below(3) > 0;
-        while (used < CALLS) {
-            if (below(steady ? 300 : 30) == 0 && used < CALLS - 83) {
-                used += text(run, x, m, states, letters);
+        while (x.calls() <= Subject.MOST_CALLS - 3) {
+            if (below(steady ? 300 : 30) == 0 && x.calls() <= Subject.MOST_CALLS - 83) {
+                text(run, x, m, states, letters);
             } else {
-                used++;
-                call(run, used, x, m, states, letters, steady);
+                call(run, x.calls() + 1, x, m, states, letters, steady);
             }
         }
     }
 
-    private static int machine(int run, LossyChannels x, Model m, int states, int letters) {
+    private static void machine(int run, Subject x, Model m, int states, int letters) {
         int count = below(11);
         for (int i = 0; i < count; i++) {
             int p = below(states);
@@ -74,10 +72,9 @@ public final class ModelTest {
             same(run, i, "addTransition", () -> x.addTransition(p, q, action, channel, letter),
                     () -> m.addTransition(p, q, action, channel, letter));
         }
-        return count;
     }
 
-    private static int goals(int run, LossyChannels x, Model m, int states, int letters) {
+    private static void goals(int run, Subject x, Model m, int states, int letters) {
         int count = below(4);
         for (int i = 0; i < count; i++) {
             int state = below(states);
@@ -94,7 +91,6 @@ public final class ModelTest {
                 same(run, i, "clear", () -> x.clear(1), () -> m.clear(1));
             }
         }
-        return 9 * count;
     }
 
     private static String word(int letters) {
@@ -120,7 +116,7 @@ public final class ModelTest {
         }
     }
 
-    private static int text(int run, LossyChannels x, Model m, int states, int letters) {
+    private static void text(int run, Subject x, Model m, int states, int letters) {
         StringBuilder text = new StringBuilder();
         int commands = below(4) == 0 ? 1 + below(8) : 1 + below(2);
         for (int i = 0; i < commands; i++) {
@@ -140,29 +136,13 @@ public final class ModelTest {
         int length = Math.min(text.length(), 81);
         for (int i = 0; i < length; i++) {
             char c = text.charAt(i);
-            same(run, i, "append", () -> append(x, c), () -> m.append(c));
+            same(run, i, "append", () -> x.append(c), () -> m.append(c));
         }
         same(run, length, "read of " + text, () -> x.read(), () -> m.read());
         same(run, length, "faultPosition of " + text, () -> x.faultPosition(), () -> m.faultPosition());
-        return length + 2;
     }
 
-    private static Object append(LossyChannels x, char c) {
-        x.append(c);
-        return null;
-    }
-
-    private static Object save(LossyChannels x) {
-        x.save();
-        return null;
-    }
-
-    private static Object restore(LossyChannels x) {
-        x.restore();
-        return null;
-    }
-
-    private static void call(int run, int n, LossyChannels x, Model m, int states, int letters, boolean steady) {
+    private static void call(int run, int n, Subject x, Model m, int states, int letters, boolean steady) {
         int kind = below(100);
         if (kind < 30) {
             if (steady && below(20) > 0) {
@@ -179,13 +159,13 @@ public final class ModelTest {
         }
     }
 
-    private static void change(int run, int n, LossyChannels x, Model m, int states, int letters) {
+    private static void change(int run, int n, Subject x, Model m, int states, int letters) {
         int a = about(states);
         int b = about(states);
         int c = about(3);
         int d = about(2);
         int e = about(letters);
-        int t = about(Math.max(1, x.transitionCount()));
+        int t = about(Math.max(1, m.transitionCount()));
         switch (below(12)) {
             case 0:
                 same(run, n, "addTransition", () -> x.addTransition(a, b, c, d, e), () -> m.addTransition(a, b, c, d, e));
@@ -212,11 +192,11 @@ public final class ModelTest {
                 }
                 break;
             case 6:
-                same(run, n, "save", () -> save(x), () -> m.save());
+                same(run, n, "save", () -> x.save(), () -> m.save());
                 break;
             case 7:
                 if (below(2) == 0) {
-                    same(run, n, "restore", () -> restore(x), () -> m.restore());
+                    same(run, n, "restore", () -> x.restore(), () -> m.restore());
                 }
                 break;
             default:
@@ -225,7 +205,7 @@ public final class ModelTest {
         }
     }
 
-    private static void move(int run, int n, LossyChannels x, Model m, int states, int letters) {
+    private static void move(int run, int n, Subject x, Model m, int states, int letters) {
         int state = below(states);
         int channel = below(2);
         int letter = below(letters);
@@ -239,10 +219,10 @@ public final class ModelTest {
         }
     }
 
-    private static void stepOrLook(int run, int n, LossyChannels x, Model m) {
-        int t = about(Math.max(1, x.transitionCount()));
+    private static void stepOrLook(int run, int n, Subject x, Model m) {
+        int t = about(Math.max(1, m.transitionCount()));
         int channel = about(2);
-        int index = about(1 + Math.max(x.length(0), x.length(1)));
+        int index = about(1 + Math.max(m.length(0), m.length(1)));
         int what = about(5);
         boolean withLosses = below(2) == 0;
         switch (below(10)) {
@@ -275,7 +255,7 @@ public final class ModelTest {
         }
     }
 
-    private static void words(int run, int n, LossyChannels x, Model m) {
+    private static void words(int run, int n, Subject x, Model m) {
         int channel = about(2);
         switch (below(4)) {
             case 0:
@@ -293,8 +273,8 @@ public final class ModelTest {
         }
     }
 
-    private static void analysis(int run, int n, LossyChannels x, Model m) {
-        int t = about(Math.max(1, x.transitionCount()));
+    private static void analysis(int run, int n, Subject x, Model m) {
+        int t = about(Math.max(1, m.transitionCount()));
         int round = about(1 + below(14));
         int index = about(1 + below(31));
         int what = about(3);

@@ -89,7 +89,7 @@ final class AnalysisSentences extends Sentences {
             due("one that takes the place of others", Look.bases(Make.machine("move(1,2) goal(2,,) goal(1,a,) goal(1,,a)")),
                     "0: 1 0 1, 1 1 0, 2 0 0; 1: 1 0 0, 2 0 0; 1// 2//");
             Subject many = Make.machine(Machines.MANY_ABOVE_ONE);
-            due("one that many others are above", many.basisSize(1) + " " + many.basisSize(2) + " " + many.lastRound(), "16 17 2");
+            due("one that many others are above", many.basisSize(1) + " " + many.basisSize(2) + " " + many.lastRound(), "16 29 2");
             Subject x = new Subject();
             for (int t = 0; t < 9; t++) {
                 x.addTransition(0, 0, 0, 0, 0);

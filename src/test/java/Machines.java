@@ -24,11 +24,12 @@ final class Machines {
             + " goal(0,bb,) goal(0,aa,) goal(0,ac,)";
 
     /**
-     * Of the goals, 12 predecessors in state 1 come in round 1, and one in state 3. Of the former, 48 come in round 2 in
-     * state 2, all of them above the one that comes of the latter: the bases have 3, 16 and 17 configurations.
+     * Of three goals, 12 predecessors in state 1 come in round 1, and one in state 3. Of the former, 30 come in round 2 in
+     * state 2, all of them above the one that comes of the latter, and 12 in state 4: 58 are minimal before the last
+     * one comes. The bases have 3, 16 and 29 configurations.
      */
     static final String MANY_ABOVE_ONE = "recv(1,0,0,b) recv(1,0,0,c) recv(1,0,1,b) recv(1,0,1,c)"
-            + " recv(2,1,0,b) recv(2,1,0,c) recv(2,1,1,b) recv(2,1,1,c) send(3,0,0,b) move(2,3)"
+            + " recv(2,1,0,b) recv(2,1,0,c) recv(2,1,1,b) send(3,0,0,b) move(2,3) move(4,1)"
             + " goal(0,aa,) goal(0,ab,) goal(0,ac,)";
 
     private static final String EXCHANGE = "send(4,5,1,a) recv(5,4,0,a) goal(5,b,aaaaaa) goal(5,c,aaaa)";

@@ -1,28 +1,32 @@
-import java.util.List;
 import java.util.function.Function;
 
-/**
- * What later calls tell of an object, also of what cannot be asked for without changing it. Each probe is for an
- * object of its own.
- */
-final class Probe {
-    /** All but what is told of texts. */
-    static final List<Function<Subject, String>> BESIDE_TEXTS = List.of(Probe::machine, Probe::steps, Probe::analysis,
-            Probe::goals, Probe::snapshot);
-    static final List<Function<Subject, String>> ALL = List.of(Probe::machine, Probe::steps, Probe::analysis, Probe::goals,
-            Probe::snapshot, Probe::room, Probe::text);
+/** A part of what an object holds, as later calls tell it. A probe may change its object. */
+enum Probe {
+    MACHINE(Look::machine),
+    PRESENT(Look::config),
+    STEPS(Probe::steps),
+    GOALS(x -> "" + x.clearGoals()),
+    BASES(Look::bases),
+    SNAPSHOT(Probe::snapshot),
+    ROOM(Probe::room),
+    TEXT(Probe::text),
+    FAULT(x -> "" + x.faultPosition());
 
-    private Probe() {
+    private final Function<Subject, String> question;
+
+    Probe(Function<Subject, String> question) {
+        this.question = question;
     }
 
-    private static String machine(Subject x) {
-        return "transitions " + Look.machine(x) + ", enabled " + x.enabled(false) + " " + x.enabled(true);
+    String of(Subject x) {
+        return this + " " + question.apply(x);
     }
 
+    /** The kinds of the steps, from the latest one on, and the configurations before them. */
     private static String steps(Subject x) {
-        StringBuilder seen = new StringBuilder("steps ").append(x.increase()).append(' ').append(Look.config(x));
+        StringBuilder seen = new StringBuilder();
         for (Object kind = undone(x); kind instanceof Integer; kind = undone(x)) {
-            seen.append(' ').append(kind).append(' ').append(Look.config(x));
+            seen.append(kind).append(' ').append(Look.config(x)).append(' ');
         }
         return seen.toString();
     }
@@ -31,35 +35,30 @@ final class Probe {
         return Check.answer(() -> x.undo());
     }
 
-    private static String analysis(Subject x) {
-        return "bases " + Look.bases(x) + ", distance " + Check.answer(() -> x.distance()) + ", covering "
-                + Check.answer(() -> x.covering(0));
+    private static String snapshot(Subject x) {
+        return Check.answer(() -> x.restore()) + " " + Look.machine(x) + " | " + Look.config(x) + " | " + Look.bases(x) + " | "
+                + x.clearGoals();
     }
 
-    private static String goals(Subject x) {
-        return "goals " + x.clearGoals();
-    }
-
-    /** How many characters fit into the text buffer still, and what is told of an earlier text. */
-    static String room(Subject x) {
+    /** How many characters fit into the text buffer still. */
+    private static String room(Subject x) {
         int room = 0;
         while (room <= 80 && "append".equals(Check.answer(() -> x.append('a')))) {
             room++;
         }
-        return "room " + room + ", fault " + x.faultPosition();
+        return "" + room;
     }
 
     /** What is read if the text in the buffer is ended as a command that adds a transition. */
-    static String text(Subject x) {
-        Check.answer(() -> x.append('1'));
-        Check.answer(() -> x.append(')'));
-        Check.answer(() -> x.append(';'));
-        return "read " + Check.answer(() -> x.read()) + ", fault " + x.faultPosition() + ", transitions "
-                + Look.machine(x);
-    }
-
-    private static String snapshot(Subject x) {
-        return "snapshot " + Check.answer(() -> x.restore()) + " " + Look.machine(x) + " | " + Look.config(x) + " | "
-                + x.clearGoals();
+    private static String text(Subject x) {
+        if (x.transitionCount() == 10) {
+            x.removeTransition(9);
+        }
+        for (char c : "1);".toCharArray()) {
+            Check.answer(() -> x.append(c));
+        }
+        Object read = Check.answer(() -> x.read());
+        int last = x.transitionCount() - 1;
+        return read + " " + x.faultPosition() + " " + Check.answer(() -> x.transition(last, 0) + " " + x.transition(last, 1));
     }
 }

@@ -95,29 +95,29 @@ final class RefusedSentences extends Sentences {
     private static void firstCondition() {
         String sentence = "If several conditions of a method are fulfilled, the one that is listed first determines the exception.";
         holds("Exceptions", sentence, () -> {
-            refused("addTransition: wrong, and ten", Rich::tenTransitions, ARGUMENT,
+            refused("promise 2, addTransition: wrong, and ten", Rich::tenTransitions, ARGUMENT,
                     x -> x.addTransition(0, 6, 0, 0, 0));
-            refused("addTransition: wrong letter, and ten", Rich::tenTransitions, ARGUMENT,
+            refused("promise 2, addTransition: wrong letter, and ten", Rich::tenTransitions, ARGUMENT,
                     x -> x.addTransition(0, 0, 2, 1, 3));
-            refused("transition: both wrong", Rich::rich, INDEX, x -> x.transition(3, 5));
-            refused("transition: both below 0", Rich::rich, INDEX, x -> x.transition(-1, -1));
-            refused("put: no channel and no letter", Rich::rich, INDEX, x -> x.put(2, 3));
-            refused("put: below 0", Rich::rich, INDEX, x -> x.put(-1, -1));
-            refused("put: no letter into a full channel", Rich::fullChannel, ARGUMENT, x -> x.put(0, 3));
-            refused("put: no channel while one is full", Rich::fullChannel, INDEX, x -> x.put(2, 0));
-            refused("letter: no channel", Rich::rich, INDEX, x -> x.letter(2, 10));
-            refused("letter: below 0", Rich::rich, INDEX, x -> x.letter(-1, -1));
-            refused("lose: no channel", Rich::rich, INDEX, x -> x.lose(2, 10));
-            refused("lose: below 0", Rich::rich, INDEX, x -> x.lose(-1, -1));
-            refused("isLast: both wrong", Rich::rich, INDEX, x -> x.isLast(3, 5));
-            refused("isLast: both low", Rich::rich, INDEX, x -> x.isLast(-1, 0));
+            refused("promise 4, transition: both wrong", Rich::rich, INDEX, x -> x.transition(3, 5));
+            refused("promise 4, transition: both below 0", Rich::rich, INDEX, x -> x.transition(-1, -1));
+            refused("promise 7, put: no channel and no letter", Rich::rich, INDEX, x -> x.put(2, 3));
+            refused("promise 7, put: below 0", Rich::rich, INDEX, x -> x.put(-1, -1));
+            refused("promise 7, put: no letter into a full channel", Rich::fullChannel, ARGUMENT, x -> x.put(0, 3));
+            refused("promise 7, put: no channel while one is full", Rich::fullChannel, INDEX, x -> x.put(2, 0));
+            refused("promise 11, letter: no channel", Rich::rich, INDEX, x -> x.letter(2, 10));
+            refused("promise 11, letter: below 0", Rich::rich, INDEX, x -> x.letter(-1, -1));
+            refused("promise 14, lose: no channel", Rich::rich, INDEX, x -> x.lose(2, 10));
+            refused("promise 14, lose: below 0", Rich::rich, INDEX, x -> x.lose(-1, -1));
+            refused("promise 34, isLast: both wrong", Rich::rich, INDEX, x -> x.isLast(3, 5));
+            refused("promise 34, isLast: both low", Rich::rich, INDEX, x -> x.isLast(-1, 0));
         });
         holds("Exceptions", sentence, () -> {
             Subject x = Rich.tenTransitions();
             x.addGoal();
             for (String text : new String[] {"1);send(0,0,0,a)", "1);goal(0,,);move(0,1);:"}) {
                 Make.append(x, text);
-                due("read: a fault behind too many", () -> x.read(), ARGUMENT);
+                due("promise 36, read: a fault behind too many", () -> x.read(), ARGUMENT);
                 Make.append(x, "move(0,");
             }
             due("nothing was carried out", x.transitionCount() + " " + x.clearGoals(), "10 3");
@@ -130,20 +130,20 @@ final class RefusedSentences extends Sentences {
             for (int wrong : new int[] {-1, 31}) {
                 Subject x = Rich.withoutGoals();
                 for (Check.Call call : analysisCalls(x, wrong)) {
-                    due("no goal, with " + wrong, call, UNSUPPORTED);
+                    due("promises 24 to 32: no goal, with " + wrong, call, UNSUPPORTED);
                 }
                 Subject y = Rich.givenUp();
                 for (Check.Call call : analysisCalls(y, wrong)) {
-                    due("given up, with " + wrong, call, STATE);
+                    due("promises 24 to 32: given up, with " + wrong, call, STATE);
                 }
                 Subject z = Rich.tooGreat();
                 for (Check.Call call : analysisCalls(z, wrong)) {
-                    due("a basis is too great, with " + wrong, call, STATE);
+                    due("promises 24 to 32: a basis is too great, with " + wrong, call, STATE);
                 }
                 Subject w = Rich.givenUp();
                 w.clearGoals();
                 for (Check.Call call : analysisCalls(w, wrong)) {
-                    due("no goal any more, with " + wrong, call, UNSUPPORTED);
+                    due("promises 24 to 32: no goal any more, with " + wrong, call, UNSUPPORTED);
                 }
             }
         });

@@ -1058,7 +1058,7 @@ public final class LossyChannels {
                     if (machine.leadsTo(t, basis.stateAt(i))) {
                         basis.load(i, work);
                         machine.applyBackwards(t, work);
-                        changed |= next.insertMinimal(work);
+                        changed = next.insertMinimal(work) || changed;
                     }
                 }
             }

@@ -5,12 +5,12 @@ import java.util.TreeMap;
 public final class AnalysisTest {
     private static final int MACHINES = 15000;
 
-    private static long seed;
+    private static Draw draw;
     private static final Map<String, Integer> SEEN = new TreeMap<>();
 
     public static void main(String[] args) {
         for (int i = 0; i < MACHINES; i++) {
-            seed = i * 104729L + 17;
+            draw = new Draw(i * 104729L + 17);
             compare(i);
         }
         Check.about("");
@@ -22,19 +22,14 @@ public final class AnalysisTest {
         Check.finish("AnalysisTest");
     }
 
-    private static int below(int bound) {
-        seed = seed * 6364136223846793005L + 1442695040888963407L;
-        return (int) ((seed >>> 33) % bound);
-    }
-
     private static void see(String what, Object value) {
         SEEN.merge(what + " " + value, 1, Integer::sum);
     }
 
     private static void compare(int number) {
-        int states = 1 + below(6);
-        int letters = 1 + below(3);
-        String commands = commands(states, letters);
+        int states = 1 + draw.below(6);
+        int letters = 1 + draw.below(3);
+        String commands = draw.machine(states, letters);
         Model m = model(commands);
         Check.about("machine " + number + ", " + commands + ": ");
         Check.due("analyze", Make.machine(commands).analyze(), m.analyze());
@@ -50,38 +45,6 @@ public final class AnalysisTest {
         }
     }
 
-    private static String commands(int states, int letters) {
-        StringBuilder commands = new StringBuilder();
-        int receiving = below(4);
-        int count = below(11);
-        for (int i = 0; i < count; i++) {
-            int p = below(states);
-            int q = below(3) == 0 ? below(states) : (p + 1) % states;
-            int action = below(5) < receiving ? 2 : below(3);
-            commands.append(action == 0 ? "move(" : action == 1 ? "send(" : "recv(").append(p).append(',').append(q);
-            if (action != 0) {
-                commands.append(',').append(below(2)).append(',').append(word(1, letters));
-            }
-            commands.append(") ");
-        }
-        int goals = 1 + below(3);
-        for (int i = 0; i < goals; i++) {
-            int length = below(3) == 0 ? 0 : below(15) == 0 ? 10 : below(6);
-            int first = below(length + 1);
-            commands.append("goal(").append(below(states)).append(',').append(word(first, letters)).append(',')
-                    .append(word(length - first, letters)).append(") ");
-        }
-        return commands.toString().strip();
-    }
-
-    private static String word(int length, int letters) {
-        StringBuilder word = new StringBuilder();
-        for (int i = 0; i < length; i++) {
-            word.append((char) ('a' + below(letters)));
-        }
-        return word.toString();
-    }
-
     private static Model model(String commands) {
         Model m = new Model();
         for (String command : commands.split(" ")) {
@@ -94,8 +57,8 @@ public final class AnalysisTest {
     }
 
     private static void present(Subject x, Model m, int states, int letters) {
-        int state = below(states);
-        String[] words = {word(below(10), letters), word(below(10), letters)};
+        int state = draw.below(states);
+        String[] words = {draw.word(draw.below(10), letters), draw.word(draw.below(10), letters)};
         Make.present(x, state, words[0], words[1]);
         m.setState(state);
         for (int channel = 0; channel < 2; channel++) {

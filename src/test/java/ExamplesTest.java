@@ -1,9 +1,10 @@
-/** The examples of the document, call by call. */
+/** The examples of the document and of README.md, call by call. */
 public final class ExamplesTest {
     public static void main(String[] args) {
         machine();
         words();
         exceptions();
+        readme();
         Check.finish("ExamplesTest");
     }
 
@@ -56,5 +57,18 @@ public final class ExamplesTest {
         Check.due("addGoal()", () -> x.addGoal(), 1);
         Check.due("analyze()", () -> x.analyze(), 1);
         Check.due("basisSize(1)", () -> x.basisSize(1), Check.INDEX);
+    }
+
+    private static void readme() {
+        Subject x = Make.text("send(0,1,0,a);recv(1,2,0,a);goal(2,,);");
+        Check.due("read()", () -> x.read(), 3);
+        Check.due("analyze()", () -> x.analyze(), 1);
+        Check.due("coveringStates()", () -> x.coveringStates(), 5);
+        Check.due("distance()", () -> x.distance(), 2);
+        Check.due("covering(0)", () -> x.covering(0), 0);
+        Check.due("lost(0)", () -> x.lost(0), 0);
+        Check.due("covering(2)", () -> x.covering(2), Check.ELEMENT);
+        Check.due("fire(0)", () -> x.fire(0), 1);
+        Check.due("undo()", () -> x.undo(), 0);
     }
 }
